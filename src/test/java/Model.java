@@ -526,6 +526,22 @@ final class Model {
         return all;
     }
 
+    /** Of every end of every face: its crossing, its edge, and 1 when the face is on the edge's right. */
+    List<List<int[]>> faceEnds() {
+        List<List<int[]>> told = new ArrayList<>();
+        for (Set<Place> face : faces(diagram)) {
+            List<int[]> ends = new ArrayList<>();
+            for (int number = 0; number < 4 * diagram.size(); number++) {
+                Place place = new Place(number / 4, number % 4);
+                if (face.contains(place)) {
+                    ends.add(new int[] {place.x, edge(place), diagram.get(place.x).in(place.k) ? 1 : 0});
+                }
+            }
+            told.add(ends);
+        }
+        return told;
+    }
+
     private static int pieces(List<Knot> knots) {
         List<Set<Integer>> classes = new ArrayList<>();
         for (int x = 0; x < knots.size(); x++) {

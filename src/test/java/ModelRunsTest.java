@@ -30,7 +30,7 @@ public final class ModelRunsTest {
         }
         String[] names = {"cross", "take", "braid", "twist", "untwist", "poke", "unpoke", "slide"};
         for (int i = 0; i < names.length; i++) {
-            Due.yes(names[i] + " was accepted " + done[i] + " times", done[i] >= 100);
+            Due.yes(names[i] + " was accepted " + done[i] + " times", done[i] >= 1000);
         }
         Due.finish();
     }
@@ -47,44 +47,52 @@ public final class ModelRunsTest {
 
     private void step() {
         int kind = dice.below(100);
-        if (kind < 4) {
+        if (kind < 2) {
             shadow();
-        } else if (kind < 8) {
+        } else if (kind < 5) {
             draftAtRandom();
-        } else if (kind < 10) {
+        } else if (kind < 6) {
             take(dice.from(-1, 5));
-        } else if (kind < 12) {
+        } else if (kind < 8) {
             weave();
-        } else if (kind < 30) {
+        } else if (kind < 24) {
             twist();
-        } else if (kind < 45) {
+        } else if (kind < 34) {
             untwist();
-        } else if (kind < 62) {
+        } else if (kind < 58) {
             poke();
-        } else if (kind < 78) {
+        } else if (kind < 74) {
             unpoke();
         } else {
             slide();
         }
     }
 
-    /** Drafts the diagram as it is, sometimes with a flaw, and takes it. */
+    /** Drafts the diagram with its edges numbered anew, sometimes with a flaw, and takes it. */
     private void shadow() {
         int left = 1;
         for (int i = 0; i < 8 && left > 0; i++) {
             left = drop();
         }
         int flawed = dice.coin() ? -1 : dice.below(8);
+        int factor = 2 * dice.below(16) + 1;
+        int shift = dice.below(32);
         for (int x = 0; x < model.count(0); x++) {
             int flaw = x == flawed ? dice.from(1, 3) : 0;
             boolean turned = flaw == 1;
-            int a = flaw == 3 ? dice.from(1, 16) : model.end(x, 0);
-            int b = model.end(x, turned ? 3 : 1);
-            int d = model.end(x, turned ? 1 : 3);
+            int a = flaw == 3 ? dice.from(1, 16) : renamed(model.end(x, 0), factor, shift);
+            int b = renamed(model.end(x, turned ? 3 : 1), factor, shift);
+            int c = renamed(model.end(x, 2), factor, shift);
+            int d = renamed(model.end(x, turned ? 1 : 3), factor, shift);
             boolean positive = (model.end(x, 4) == 1) == (flaw != 2);
-            cross(a, b, model.end(x, 2), d, turned ? !positive : positive);
+            cross(a, b, c, d, turned ? !positive : positive);
         }
         take(dice.from(0, 4));
+    }
+
+    /** As the factor is odd, different edges stay different. */
+    private static int renamed(int edge, int factor, int shift) {
+        return (edge * factor + shift) % 32 + 1;
     }
 
     private void draftAtRandom() {
@@ -128,7 +136,7 @@ public final class ModelRunsTest {
     }
 
     private void twist() {
-        int edge = stray(16);
+        int edge = someEdge();
         int kind = dice.below(10) == 0 ? stray(5) : dice.below(4);
         if (dice.below(3) > 0 && model.count(0) > 5) {
             return;
@@ -142,28 +150,52 @@ public final class ModelRunsTest {
     }
 
     private void poke() {
-        int e = stray(16);
+        int e = someEdge();
         boolean right = dice.coin();
-        int f = stray(16);
+        int f = someEdge();
         boolean fRight = dice.coin();
+        List<int[]> face = someFace(0);
+        if (face != null && dice.below(4) > 0) {
+            int[] one = face.get(dice.below(face.size()));
+            int[] two = face.get(dice.below(face.size()));
+            e = one[1];
+            right = one[2] == 1;
+            f = two[1];
+            fRight = two[2] == 1;
+        }
         String call = "poke(" + e + ", " + right + ", " + f + ", " + fRight + ")";
         accept(5, call, link.poke(e, right, f, fRight), model.poke(e, right, f, fRight));
     }
 
     private void unpoke() {
-        int x = stray(8);
-        int y = stray(8);
-        accept(6, "unpoke(" + x + ", " + y + ")", link.unpoke(x, y), model.unpoke(x, y));
+        int[] at = someCrossings(2);
+        String call = "unpoke(" + at[0] + ", " + at[1] + ")";
+        accept(6, call, link.unpoke(at[0], at[1]), model.unpoke(at[0], at[1]));
     }
 
     private void slide() {
-        for (int i = 0; i < 4; i++) {
-            int x = stray(8);
-            int y = stray(8);
-            int z = stray(8);
-            String call = "slide(" + x + ", " + y + ", " + z + ")";
-            accept(7, call, link.slide(x, y, z), model.slide(x, y, z));
+        int[] at = someCrossings(3);
+        String call = "slide(" + at[0] + ", " + at[1] + ", " + at[2] + ")";
+        accept(7, call, link.slide(at[0], at[1], at[2]), model.slide(at[0], at[1], at[2]));
+    }
+
+    /** Mostly the crossings of a face, from any of them on and in any turn. */
+    private int[] someCrossings(int length) {
+        int[] at = new int[length];
+        List<int[]> face = dice.below(5) == 0 ? null : someFace(length);
+        int from = dice.below(length);
+        int by = dice.coin() ? 1 : length - 1;
+        for (int i = 0; i < length; i++) {
+            at[i] = face == null ? stray(8) : face.get((from + by * i) % length)[0];
         }
+        return at;
+    }
+
+    /** One of the faces of a length, or of any for 0; null if there is none. */
+    private List<int[]> someFace(int length) {
+        List<List<int[]>> faces = model.faceEnds();
+        faces.removeIf(face -> length != 0 && face.size() != length);
+        return faces.isEmpty() ? null : faces.get(dice.below(faces.size()));
     }
 
     private void compareSomewhere() {
@@ -217,6 +249,11 @@ public final class ModelRunsTest {
 
     private void compareSecond(List<Long> second, int e) {
         same("second(" + e + ")", link.second(e), e >= 0 && e < second.size() ? second.get(e) : 0);
+    }
+
+    private int someEdge() {
+        int size = model.count(0);
+        return size == 0 || dice.below(8) == 0 ? stray(32) : model.end(dice.below(size), dice.below(4));
     }
 
     private int stray(int most) {

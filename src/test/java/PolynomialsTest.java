@@ -6,6 +6,7 @@ public final class PolynomialsTest {
         trefoils();
         torusLinks();
         otherKnots();
+        anyEdges();
         borromeanRings();
         splitLinks();
         twelveComponents();
@@ -67,6 +68,24 @@ public final class PolynomialsTest {
         LinkDiagram eightEighteen = Due.braid(3, 1, -2, 1, -2, 1, -2, 1, -2);
         Due.second(eightEighteen, 1, -5, 10, -13, 10, -5, 1);
         Due.first(eightEighteen, -16, 1, -12, -4, -8, 6, -4, -7, 0, 9, 4, -7, 8, 6, 12, -4, 16, 1);
+    }
+
+    /** The figure eight with its edges named by every turn of 1 .. 32. */
+    private static void anyEdges() {
+        for (int shift = 0; shift < 32; shift++) {
+            LinkDiagram eight = Due.braid(3, 1, -2, 1, -2);
+            LinkDiagram link = new LinkDiagram();
+            for (int x = 0; x < 4; x++) {
+                int[] edges = new int[4];
+                for (int k = 0; k < 4; k++) {
+                    edges[k] = (eight.end(x, k) * 5 + shift) % 32 + 1;
+                }
+                link.cross(edges[0], edges[1], edges[2], edges[3], eight.end(x, 4) == 1);
+            }
+            Due.same("take(0)", link.take(0), 0);
+            Due.first(link, -8, 1, -4, -1, 0, 1, 4, -1, 8, 1);
+            Due.second(link, 1, -3, 1);
+        }
     }
 
     private static void borromeanRings() {
