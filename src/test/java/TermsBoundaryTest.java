@@ -18,6 +18,7 @@ public final class TermsBoundaryTest {
         othersKeepTheirOrder();
         freeEdgesLeastFirst();
         refusedChangesNothing();
+        usedForFiveHundredAndTwelveCalls();
         Due.finish();
     }
 
@@ -391,5 +392,18 @@ public final class TermsBoundaryTest {
                 setting.refuses("slide", link -> link.slide(far, 0, 1));
             }
         }
+    }
+
+    // "An object is used for at most 512 calls after it has been made" (of the section 'What it is')
+    private static void usedForFiveHundredAndTwelveCalls() {
+        LinkDiagram link = new LinkDiagram();
+        for (int calls = 0; calls < 508; calls += 2) {
+            Due.yes("twist(0, kind)", link.twist(0, calls / 2 % 4));
+            Due.yes("untwist(0)", link.untwist(0));
+        }
+        Due.same("call 509, count(0)", link.count(0), 0);
+        Due.same("call 510, count(1)", link.count(1), 1);
+        Due.same("call 511, second(0)", link.second(0), 1);
+        Due.same("call 512, first(0)", link.first(0), 1);
     }
 }
