@@ -13,11 +13,12 @@ public final class NewObjectTest {
         "boolean twist(int,int)", "boolean untwist(int)", "boolean poke(int,boolean,int,boolean)",
         "boolean unpoke(int,int)", "boolean slide(int,int,int)"));
 
-    public static void main(String[] args) {
+    public static void main(String[] args) throws NoSuchFieldException {
         newDiagram();
         emptyDraftAndWord();
         objectsAreApart();
         face();
+        none();
         Due.finish();
     }
 
@@ -50,6 +51,7 @@ public final class NewObjectTest {
         for (Method method : LinkDiagram.class.getDeclaredMethods()) {
             if (!Modifier.isPrivate(method.getModifiers())) {
                 found.add(told(method));
+                Due.same("modifiers of " + method.getName(), method.getModifiers(), Modifier.PUBLIC);
             }
         }
         Due.yes("the methods " + found, found.equals(FACE));
@@ -57,10 +59,18 @@ public final class NewObjectTest {
             boolean isPrivate = Modifier.isPrivate(field.getModifiers());
             Due.yes("the field " + field.getName(), isPrivate || field.getName().equals("NONE"));
         }
-        Constructor<?>[] constructors = LinkDiagram.class.getConstructors();
+        Constructor<?>[] constructors = LinkDiagram.class.getDeclaredConstructors();
         Due.same("constructors", constructors.length, 1);
         Due.same("parameters", constructors[0].getParameterCount(), 0);
-        Due.yes("final", Modifier.isFinal(LinkDiagram.class.getModifiers()));
+        Due.same("modifiers of the constructor", constructors[0].getModifiers(), Modifier.PUBLIC);
+        Due.same("modifiers of the class", LinkDiagram.class.getModifiers(), Modifier.PUBLIC | Modifier.FINAL);
+    }
+
+    // "public static final int NONE = -100;"
+    private static void none() throws NoSuchFieldException {
+        Field none = LinkDiagram.class.getDeclaredField("NONE");
+        Due.same("modifiers of NONE", none.getModifiers(), Modifier.PUBLIC | Modifier.STATIC | Modifier.FINAL);
+        Due.yes("the type of NONE", none.getType() == int.class);
     }
 
     private static String told(Method method) {
